@@ -73,6 +73,8 @@ public final class PropagationTest {
             "probeAll() -> 0; undoCount() -> 4; contradictionLine() -> EMPTY");
         NonogramSolver several = Runs.puzzle(4, 5, 1, "2a/1a/3a/1a/1a/1a/2a/1a/2a");
         RUNS.more("promise 24, several probes", several, "probeAll() -> 6; decidedCount() -> 8; probeAll() -> 0");
+        RUNS.more("promise 24, a color that is no candidate is not probed", Runs.puzzle(2, 2, 3, "1b/1b/1b/1b"),
+            "propagate() -> 8; candidates(0, 0) -> 5; probeAll() -> 0; candidates(0, 0) -> 5; candidates(1, 1) -> 5");
         NonogramSolver twoColors = Runs.puzzle(3, 4, 2, "1a1a/1a1a/2a/2a/1a/1a/2a");
         RUNS.more("promise 24, two colors", twoColors,
             "propagate() -> 16; decidedCount() -> 4; probeAll() -> 1; decidedCount() -> 12");

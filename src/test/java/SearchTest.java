@@ -89,6 +89,8 @@ public final class SearchTest {
             "011001100010100", "110001001100010");
         compareRules("three colors", 4, 3, "1b/1b/2b/1b1a/1b1b/2b/1b1a", new int[] {5, 5, 3},
             "200002220021", "200020022201");
+        compareRules("cells with three candidates", 3, 3, "1a1c/1b1c/1b1a/1a1b/1c1b/1c1a",
+            new int[] {5, 5, 5}, "103230021", "130023201");
         compareRules("the same number", 3, 5, "1a1b/2a/1a1a/1a/2a/1a/1a/1b", new int[] {5, 5, 5},
             "001021100001010", "010020110010010");
     }
