@@ -4,6 +4,11 @@ import java.lang.reflect.Method;
 /**
  * Makes runs of calls on fresh objects and compares the answers with those that are due. A run is a text in the form of
  * the document's examples: "reset(1, 5, 1) -> 6; undo() -> EMPTY". A call without an arrow may answer anything.
+ *
+ * <p>These steps stand for several calls, of which the last one has the answer behind the arrow: "text 1a/ -> 3"
+ * appends the characters, and "8 x undo() -> 0" makes a step eight times. These steps look at the whole grid:
+ * "cells = 33/21" has the candidates of all cells as hexadecimal digits, row by row, and "clues = 1a/2b/" the clues of
+ * all lines. "formatted = 1a/2b/" has the formatted text.
  */
 final class Runs {
     private int wrong = 0;
@@ -28,12 +33,81 @@ final class Runs {
     }
 
     private void makeStep(String name, NonogramSolver solver, String step) {
+        if (step.contains(" = ") || step.endsWith(" =")) {
+            int equals = step.indexOf(" =");
+            String look = step.substring(0, equals);
+            same(name + ": " + look, look(solver, look), step.substring(equals + 2).strip());
+            return;
+        }
         String[] sides = step.split("->");
         String call = sides[0].strip();
-        long got = call(solver, call);
+        long got = makeCalls(solver, call);
         if (sides.length > 1) {
             due(name + ": " + call, got, number(sides[1].strip()));
         }
+    }
+
+    private static long makeCalls(NonogramSolver solver, String call) {
+        if (call.startsWith("text ")) {
+            return append(solver, call.substring("text ".length()));
+        }
+        int times = call.indexOf(" x ");
+        if (times < 0) {
+            return call(solver, call);
+        }
+        long got = 0;
+        for (int i = 0; i < Integer.parseInt(call.substring(0, times)); i++) {
+            got = makeCalls(solver, call.substring(times + 3));
+        }
+        return got;
+    }
+
+    private static String look(NonogramSolver solver, String what) {
+        return switch (what) {
+            case "cells" -> cells(solver);
+            case "clues" -> clues(solver);
+            case "formatted" -> formattedText(solver);
+            default -> throw new IllegalArgumentException(what);
+        };
+    }
+
+    /** The candidates of all cells as hexadecimal digits, row by row. */
+    static String cells(NonogramSolver solver) {
+        StringBuilder result = new StringBuilder();
+        int rows = solver.rowCount();
+        int columns = solver.columnCount();
+        for (int row = 0; row < rows; row++) {
+            result.append(row > 0 ? "/" : "");
+            for (int column = 0; column < columns; column++) {
+                result.append(Integer.toHexString(solver.candidates(row, column)));
+            }
+        }
+        return result.toString();
+    }
+
+    /** The clues of all lines in the form of the text, without calling formatClues. */
+    static String clues(NonogramSolver solver) {
+        StringBuilder result = new StringBuilder();
+        int lines = solver.rowCount() + solver.columnCount();
+        for (int line = 0; line < lines; line++) {
+            result.append(line > 0 ? "/" : "");
+            int runs = solver.runCount(line);
+            for (int run = 0; run < runs; run++) {
+                result.append(solver.runLength(line, run)).append("?abc".charAt(solver.runColor(line, run)));
+            }
+        }
+        return result.toString();
+    }
+
+    /** The formatted text, as the latest call of formatClues made it. */
+    static String formattedText(NonogramSolver solver) {
+        StringBuilder result = new StringBuilder();
+        int character = solver.formattedCharacter(0);
+        while (character >= 0) {
+            result.append((char) character);
+            character = solver.formattedCharacter(result.length());
+        }
+        return result.toString();
     }
 
     static int call(Object solver, String call) {
@@ -84,11 +158,13 @@ final class Runs {
         }
     }
 
-    /** Appends a text, so that parseClues can read it. */
-    static void append(NonogramSolver solver, String text) {
+    /** Appends a text, so that parseClues can read it, and returns the last answer. */
+    static int append(NonogramSolver solver, String text) {
+        int answer = 0;
         for (char character : text.toCharArray()) {
-            solver.appendText(character);
+            answer = solver.appendText(character);
         }
+        return answer;
     }
 
     /** Makes a new grid with these clues. */
