@@ -335,11 +335,12 @@ public final class NonogramSolver {
     }
 
     public int drawPicture(int seed) {
+        int choices = grid.colors + 1;
         int state = seed;
         int colored = 0;
         for (int cell = 0; cell < grid.cellTotal(); cell++) {
             state = state * 1103515245 + 12345;
-            int color = (state >>> 16) % (grid.colors + 1);
+            int color = choices > 0 ? (state >>> 16) % choices : WHITE;
             grid.cells[cell] = 1 << color;
             if (color != WHITE) {
                 colored++;
@@ -713,11 +714,11 @@ public final class NonogramSolver {
         }
 
         int rowLine(int cell) {
-            return cell / columns;
+            return columns > 0 ? cell / columns : 0;
         }
 
         int columnLine(int cell) {
-            return rows + cell % columns;
+            return columns > 0 ? rows + cell % columns : rows;
         }
 
         /** Returns the two lines of a cell as a bit mask. */

@@ -94,5 +94,22 @@ public final class LanguageTest {
         for (String line : text.split("\n")) {
             RUNS.holds("at most 120 characters: " + line, line.length() <= 120);
         }
+        methodLengths(text.split("\n"));
+    }
+
+    /** A method of the class stands four spaces in, and one of a class inside it eight. */
+    private static void methodLengths(String[] lines) {
+        Pattern header = Pattern.compile("( {4}| {8})(?!if |for |while |switch )\\w[\\w\\[\\] ]*\\(([^()]*)\\) \\{");
+        int methods = 0;
+        for (int start = 0; start < lines.length; start++) {
+            Matcher method = header.matcher(lines[start]);
+            if (method.matches()) {
+                methods++;
+                int end = List.of(lines).subList(start, lines.length).indexOf(method.group(1) + "}");
+                RUNS.holds("some sixty lines: " + lines[start], end > 0 && end < 60);
+                RUNS.holds("at most seven parameters: " + lines[start], method.group(2).split(",").length <= 7);
+            }
+        }
+        RUNS.holds("the methods are found", methods > 100);
     }
 }

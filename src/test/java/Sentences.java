@@ -28,6 +28,20 @@ final class Sentences {
         return String.format("reset(%d, %d, %d); text %s; parseClues() -> %d;", rows, columns, colors, clues, runs);
     }
 
+    /** Looks at every cell of all solutions, which are given in the order in which they are found. */
+    static String solutions(int columns, String solutions) {
+        StringBuilder run = new StringBuilder();
+        int number = 0;
+        for (String solution : solutions.split(" ")) {
+            for (int cell = 0; cell < solution.length(); cell++) {
+                run.append(String.format("solutionColor(%d, %d, %d) -> %c;", number, cell / columns, cell % columns,
+                    solution.charAt(cell)));
+            }
+            number++;
+        }
+        return run.append(String.format("solutionColor(%d, 0, 0) -> EMPTY;", number)).toString();
+    }
+
     /** Opens a section of the document; the words of the one before must have been said by now. */
     void section(String heading) {
         closeSection();

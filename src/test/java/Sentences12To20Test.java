@@ -54,6 +54,8 @@ public final class Sentences12To20Test {
         S.says("Returns the color of a decided cell.");
         S.answers("reset(1, 4, 3); keepOnly(0, 0, 0); keepOnly(0, 1, 1); keepOnly(0, 2, 2); keepOnly(0, 3, 3)",
             "color(0, 0) -> 0; color(0, 1) -> 1; color(0, 2) -> 2; color(0, 3) -> 3");
+        S.answers("reset(2, 3, 3); keepOnly(1, 2, 3); color(1, 2) -> 3; color(1, 0) -> UNDECIDED",
+            "color(0, 2) -> UNDECIDED");
         S.keeps(RICH, "color(3, 1) -> 1");
         S.says("- `row`: the row");
         S.answers(RICH, "color(0, 1) -> UNDECIDED; color(3, 1) -> 1");
@@ -97,6 +99,8 @@ public final class Sentences12To20Test {
         S.refuses(RICH, "keepOnly(3, 1, 0) -> NOT_POSSIBLE", "keepOnly(3, 1, 2) -> NOT_POSSIBLE",
             "keepOnly(1, 1, 0) -> NOT_POSSIBLE");
         S.answers(RICH, "keepOnly(1, 1, 0) -> NOT_POSSIBLE; undo(); keepOnly(1, 1, 0) -> 2");
+        S.answers("reset(2, 3, 2); keepOnly(1, 2, 2) -> 2; keepOnly(1, 2, 1) -> NOT_POSSIBLE; keepOnly(1, 0, 1) -> 2",
+            "keepOnly(0, 2, 0) -> 2; cells = 771/274");
     }
 
     private static void eliminate() {
@@ -128,6 +132,8 @@ public final class Sentences12To20Test {
         S.refuses(RICH, "eliminate(1, 1, 0) -> NOT_POSSIBLE", "eliminate(3, 1, 0) -> NOT_POSSIBLE",
             "eliminate(3, 1, 2) -> NOT_POSSIBLE", "eliminate(3, 1, 1) -> NOT_POSSIBLE");
         S.answers(RICH, "eliminate(1, 1, 1) -> 1; eliminate(1, 1, 2) -> NOT_POSSIBLE; undo(); eliminate(1, 1, 2) -> 1");
+        S.answers("reset(2, 3, 1); eliminate(1, 2, 0) -> 1; eliminate(1, 2, 1) -> NOT_POSSIBLE",
+            "eliminate(1, 2, 0) -> -5; eliminate(1, 0, 1) -> 1; eliminate(0, 2, 0) -> 1; cells = 332/132");
     }
 
     private static void decidedCount() {
@@ -147,6 +153,8 @@ public final class Sentences12To20Test {
             + "down.");
         S.answers(HALF_DECIDED, "averageCandidates(1) -> 200; averageCandidates(2) -> 300",
             "averageCandidates(5) -> 250");
+        S.answers("reset(2, 3, 3); eliminate(1, 2, 0); averageCandidates(4) -> 350; averageCandidates(1) -> 366",
+            "averageCandidates(0) -> 400; averageCandidates(3) -> 400");
         S.keeps(RICH, "averageCandidates(1) -> 250");
         S.says("- `line`: the line");
         S.answers(RICH, "averageCandidates(0) -> 300; averageCandidates(3) -> 300; averageCandidates(4) -> 300",
@@ -183,6 +191,14 @@ public final class Sentences12To20Test {
         S.says("- `line`: the line");
         S.answers(RICH, "assignmentCount(0) -> 2; assignmentCount(1) -> 0; assignmentCount(3) -> 1",
             "assignmentCount(4) -> 3; assignmentCount(5) -> 0; clearClue(5); addRun(5, 3, 1); assignmentCount(5) -> 1");
+        // The white cell behind the second run must be possible, too.
+        S.answers("reset(1, 6, 1); addRun(0, 1, 1); addRun(0, 2, 1); addRun(0, 1, 1); assignmentCount(0) -> 1",
+            "eliminate(0, 4, 0); assignmentCount(0) -> 0; undo(); eliminate(0, 3, 0); assignmentCount(0) -> 1",
+            "eliminate(0, 1, 0); assignmentCount(0) -> 0");
+        // A run that is gone needs no white cell before it.
+        S.answers("reset(1, 2, 1); addRun(0, 1, 1); addRun(0, 1, 1); assignmentCount(0) -> 0; clearClue(0)",
+            "addRun(0, 2, 1); assignmentCount(0) -> 1; reset(1, 2, 1); addRun(0, 2, 1); addRun(1, 1, 1)",
+            "assignmentCount(0) -> 1");
         S.says("Returns the number, 0 if there is a contradiction;");
         S.answers("reset(1, 3, 1); assignmentCount(0) -> 1; eliminate(0, 2, 0); assignmentCount(0) -> 0",
             "addRun(0, 1, 1); assignmentCount(0) -> 1; addRun(0, 1, 1); assignmentCount(0) -> 1; addRun(0, 1, 1)",
@@ -234,6 +250,8 @@ public final class Sentences12To20Test {
         // The second run has the smaller color, but the white cell before it decides.
         checkAssignments("reset(1, 3, 3); addRun(0, 1, 3); addRun(0, 1, 1);", "031 301 310");
         checkAssignments("reset(1, 5, 1); addRun(0, 1, 1); addRun(0, 2, 1);", "01011 10011 10110");
+        checkAssignments("reset(1, 6, 2); addRun(0, 1, 1); addRun(0, 3, 2); addRun(0, 1, 1);",
+            "012221 102221 122201 122210");
         checkAssignments("reset(1, 5, 2); addRun(0, 1, 2); addRun(0, 2, 1); eliminate(0, 4, 0);", "00211 02011 20011");
         checkAssignments("reset(1, 5, 2); addRun(0, 2, 2); addRun(0, 1, 1); eliminate(0, 1, 0);",
             "02201 02210 22001 22010 22100");

@@ -3,7 +3,8 @@ public final class Sentences1To11Test {
     private static final Sentences S = new Sentences();
     private static final String RICH = Sentences.RICH;
     /** The first clue has eight runs, and the one of the last line seven. */
-    private static final String LONG_CLUES = RICH + "clearClue(0); 8 x addRun(0, 1, 1) -> 8; 5 x addRun(5, 1, 1) -> 7;";
+    private static final String LONG_CLUES = RICH
+        + "text 1a1a1a1a1a1a1a//1a/1a/2a/1a3b1a1a1a1a1a; parseClues() -> 18; undoCount() -> 5; text 1a;";
 
     public static void main(String[] args) {
         newObject();
@@ -210,6 +211,11 @@ public final class Sentences1To11Test {
             "minimumLength(0) -> 6; addRun(0, 1, 2); minimumLength(0) -> 7; addRun(0, 1, 1); minimumLength(0) -> 8",
             "addRun(0, 1, 3); addRun(0, 1, 3); addRun(0, 1, 3); minimumLength(0) -> 13; minimumLength(1) -> 0");
         S.keeps(RICH, "minimumLength(5) -> 4");
+        // Neither a run that is gone nor the first run of the next line is adjacent to the last run.
+        S.answers("reset(1, 2, 1); addRun(0, 2, 1); addRun(0, 1, 1); minimumLength(0) -> 4; undo()",
+            "minimumLength(0) -> 2; addRun(0, 1, 1); clearClue(0); addRun(0, 3, 1); minimumLength(0) -> 3");
+        S.answers("reset(8, 8, 1); addRun(1, 1, 1); 8 x addRun(0, 1, 1); minimumLength(0) -> 15; minimumLength(1) -> 1",
+            "8 x addRun(15, 1, 1); minimumLength(15) -> 15; undo(); minimumLength(15) -> 13; minimumLength(14) -> 0");
         S.says("- `line`: the line");
         S.answers(RICH, "minimumLength(0) -> 1; minimumLength(1) -> 0; minimumLength(4) -> 2; minimumLength(5) -> 4");
         S.says("Returns the number of cells, which may be greater than the length of the line;");

@@ -8,6 +8,7 @@ public final class Sentences21To31Test {
     private static final String SOLVED = SOUND + "propagate() -> 15; cells = 12/11/21/21;";
     private static final String TWO_BY_TWO = "reset(2, 2, 1); text 1a/1a/1a/1a; parseClues() -> 4;";
     private static final String THREE_BY_THREE = "reset(3, 3, 1); text 1a/1a/1a/1a/1a/1a; parseClues() -> 6;";
+    private static final String FOUR_SOLUTIONS = Sentences.puzzle(3, 3, 1, "1a/2a/1a/1a/2a/1a");
     /** With this many nodes, a search finds its first solution or the requested ones, or has looked everywhere. */
     private static final String FIRST_AT_60 = "reset(6, 7, 1); setRule(0);"
         + "text 1a/1a/1a1a/1a1a/1a1a/1a/1a/1a1a/2a/1a1a//1a/1a; parseClues() -> 17;";
@@ -29,6 +30,9 @@ public final class Sentences21To31Test {
         + "text 1a1a/1a1a/2a/1a/2a/1a/1a1a/1a/1a/2a/1a1a; parseClues() -> 15;";
     private static final String NONE_IN_61 = "reset(6, 7, 1); setRule(2);"
         + "text 1a/1a/2a/1a1a/2a/1a1a/1a//1a/1a1a/1a/2a/3a; parseClues() -> 15;";
+    /** A largest grid, with most colors. */
+    private static final String LARGEST = Sentences.puzzle(8, 8, 3, "1a1c/1b1a1c1b1c/1a1b1c1a/1a1c2a/1a1c/1c1c/"
+        + "1c1b1a1a/1c1a1a/2a1c/1a1c1c/1b1a1b/1a1b1c1a/2c1a/1c2a1c/1b1a1c2a/1c");
     /** A rich state whose search fails even for one solution. */
     private static final String HOPELESS = RICH + "parseClues();" + FIRST_AT_61
         + "addRun(0, 8, 1); solveLine(0) -> CONTRADICTION; undo() -> 1; text 1a;";
@@ -169,6 +173,10 @@ public final class Sentences21To31Test {
         S.changes("edits", SOLVED, "probeAll() -> 0");
         S.answers(Sentences.puzzle(7, 6, 1, "1a/1a/2a/2a/1a1a/1a1a/2a/1a1a/1a/2a/1a2a/1a2a/1a"), "probeAll() -> 14",
             "decidedCount() -> 42; probeAll() -> 0; undoCount() -> 3; undo(); undo(); decidedCount() -> 0");
+        S.answers(LARGEST, "probeAll() -> 7",
+            "cells = 12111811/11428148/31348211/29191221/31311991/19191991/99433121/99133121");
+        S.answers("reset(8, 8, 1); probeAll() -> 0; decidedCount() -> 64; reset(8, 8, 3); probeAll() -> 0",
+            "decidedCount() -> 64");
         S.says("CONTRADICTION if a propagation of the grid has a contradiction, in which case the grid is as before "
             + "the call.");
         S.changes("contradiction", RICH, "probeAll() -> CONTRADICTION");
@@ -266,8 +274,8 @@ public final class Sentences21To31Test {
         S.answers(SECOND_AT_60, "solutionColor(1, 1, 0) -> 1; solutionColor(0, 1, 0) -> 0",
             "solutionColor(2, 1, 0) -> SEARCH_LIMIT");
         S.says("- `solution`: the number of the solution in the order in which the search finds them, 0 to 19");
-        solutionsInOrder("setRule(0);", "001110010 010011100 010110001 100011010");
-        solutionsInOrder("setRule(2);", "001110010 100011010 010011100 010110001");
+        S.answers(FOUR_SOLUTIONS, Sentences.solutions(3, "001110010 010011100 010110001 100011010"));
+        S.answers(FOUR_SOLUTIONS + "setRule(2);", Sentences.solutions(3, "001110010 100011010 010011100 010110001"));
         S.answers(TWENTIETH_AT_60, "solutionColor(19, 0, 1) -> 1; solutionColor(19, 0, 4) -> 0",
             "solutionColor(0, 0, 4) -> 1");
         S.refuses(SOUND, "solutionColor(-1, 0, 0) -> BAD_ARGUMENT", "solutionColor(20, 0, 0) -> BAD_ARGUMENT",
@@ -298,19 +306,6 @@ public final class Sentences21To31Test {
         S.answers(NONE_IN_59, "solutionColor(0, 0, 0) -> EMPTY");
     }
 
-    private static void solutionsInOrder(String rule, String solutions) {
-        StringBuilder run = new StringBuilder(Sentences.puzzle(3, 3, 1, "1a/2a/1a/1a/2a/1a") + rule);
-        int number = 0;
-        for (String solution : solutions.split(" ")) {
-            for (int cell = 0; cell < 9; cell++) {
-                run.append("solutionColor(").append(number).append(", ").append(cell / 3).append(", ").append(cell % 3)
-                    .append(") -> ").append(solution.charAt(cell)).append(';');
-            }
-            number++;
-        }
-        S.answers(run.toString(), "solutionColor(" + number + ", 0, 0) -> EMPTY");
-    }
-
     private static void searchNodes() {
         S.section("Promise 30: searchNodes");
         S.says("Returns the number of nodes that a search for at most a given number of solutions visits.");
@@ -328,6 +323,11 @@ public final class Sentences21To31Test {
         S.answers(ONE_IN_59, "searchNodes(1) -> 48; searchNodes(2) -> 59; searchNodes(20) -> 59");
         S.says("BAD_ARGUMENT if the limit is out of range (checked first);");
         S.refuses(HOPELESS, "searchNodes(0) -> BAD_ARGUMENT", "searchNodes(21) -> BAD_ARGUMENT");
+        S.answers(LARGEST, "searchNodes(20) -> 46; countSolutions(20) -> 20; setRule(2); searchNodes(20) -> 42",
+            "propagate() -> 153; searchNodes(20) -> 42; setRule(1); searchNodes(20) -> 46; undo(); passCount() -> 4");
+        S.answers(Sentences.puzzle(8, 8, 1, "1a/1a/1a/1a/1a/1a/1a/1a/1a/1a/1a/1a/1a/1a/1a/1a"),
+            "searchNodes(18) -> 58; searchNodes(19) -> SEARCH_LIMIT; countSolutions(18) -> 18",
+            "solutionColor(0, 0, 7) -> 1; solutionColor(0, 7, 0) -> 1");
         S.says("SEARCH_LIMIT.");
         S.refuses(HOPELESS, "searchNodes(1) -> SEARCH_LIMIT", "searchNodes(20) -> SEARCH_LIMIT");
         S.answers(FIRST_AT_60, "searchNodes(1) -> 60; searchNodes(2) -> SEARCH_LIMIT");

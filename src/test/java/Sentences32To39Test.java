@@ -35,6 +35,8 @@ public final class Sentences32To39Test {
             "addRun(0, 1, 2); addRun(0, 2, 1); addRun(1, 1, 1); addRun(2, 1, 2); addRun(3, 1, 2); firstMismatch() -> 0",
             "clearClue(0); addRun(0, 2, 1); addRun(0, 1, 2); firstMismatch() -> 0; clearClue(0); addRun(0, 1, 1)",
             "firstMismatch() -> 0; addRun(0, 2, 2); firstMismatch() -> EMPTY; addRun(0, 1, 1); firstMismatch() -> 0");
+        S.answers("reset(2, 3, 2); drawPicture(1); firstMismatch() -> EMPTY; addRun(4, 1, 1); firstMismatch() -> 4",
+            "addRun(1, 1, 1); firstMismatch() -> 1");
         S.keeps(DECIDED, "firstMismatch() -> 0");
         S.says("Returns the line, or EMPTY if all lines match;");
         S.answers("propagate(); firstMismatch() -> EMPTY; addRun(9, 1, 1); firstMismatch() -> 9; addRun(0, 1, 1)",

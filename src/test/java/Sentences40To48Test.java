@@ -216,7 +216,7 @@ public final class Sentences40To48Test {
             "readTable(1, 7) -> 2; createTable(2, 0, 8); exportCandidates(2) -> 8; readTable(2, 0) -> 7",
             "readTable(2, 3) -> 6; readTable(2, 7) -> 2");
         S.changes("table 1", THREE_TABLES, "exportCandidates(1) -> 8");
-        S.changes("table 0", THREE_TABLES + "createTable(0, 0, 64);", "exportCandidates(0) -> 8");
+        S.changes("table 0", THREE_TABLES + "createTable(0, 0, 16);", "exportCandidates(0) -> 8");
         S.answers("reset(8, 8, 3); keepOnly(7, 7, 3); keepOnly(0, 7, 0); createTable(0, 0, 64)",
             "exportCandidates(0) -> 64; readTable(0, 0) -> 15; readTable(0, 7) -> 1; readTable(0, 56) -> 15",
             "readTable(0, 63) -> 8");

@@ -244,18 +244,8 @@ public final class SentencesDescriptionTest {
         solutions(3, 3, 1, "1a/2a/1a/1a/2a/1a", "rowCount()", "001110010 010011100 010110001 100011010");
     }
 
-    /** All solutions in the order in which they are found. */
     private static void solutions(int rows, int columns, int colors, String clues, String call, String solutions) {
-        StringBuilder run = new StringBuilder(Sentences.puzzle(rows, columns, colors, clues)).append(call).append(';');
-        int number = 0;
-        for (String solution : solutions.split(" ")) {
-            for (int cell = 0; cell < rows * columns; cell++) {
-                run.append("solutionColor(").append(number).append(", ").append(cell / columns).append(", ")
-                    .append(cell % columns).append(") -> ").append(solution.charAt(cell)).append(';');
-            }
-            number++;
-        }
-        S.answers(run.toString(), "solutionColor(" + number + ", 0, 0) -> EMPTY");
+        S.answers(Sentences.puzzle(rows, columns, colors, clues), call, Sentences.solutions(columns, solutions));
     }
 
     private static void edits() {
@@ -277,6 +267,13 @@ public final class SentencesDescriptionTest {
         S.answers("reset(1, 2, 1); addRun(0, 1, 1); addRun(0, 2, 1); addRun(0, 3, 1); addRun(0, 4, 1); addRun(0, 5, 1)",
             "addRun(0, 6, 1); addRun(0, 7, 1); addRun(0, 8, 1); undoCount() -> 8; keepOnly(0, 0, 1); keepOnly(0, 1, 0)",
             "undoCount() -> 8; 8 x undo() -> 0; clues = 1a2a//; cells = 33; undo() -> EMPTY; clues = 1a2a//");
+        for (String edit : new String[] {"addRun(2, 2, 1)", "clearClue(0)", "keepOnly(0, 0, 1)", "eliminate(0, 0, 1)",
+            "solveLine(0)", "propagate()", "probeAll()", "text //1a///; parseClues()"}) {
+            S.answers(RICH, "undo(); undo(); undo() -> 1; clearClue(1); keepOnly(3, 0, 1); cells = 77/77/77/27;" + edit,
+                "undoCount() -> 4; undo() -> 3; cells = 77/77/77/27; clues = 1a//1a/1a/2a/1a");
+        }
+        S.answers("reset(2, 3, 2); drawPicture(1); addRun(0, 2, 2); takeClues(); undo() -> 1; cells = 411/112",
+            "clues = 1b2b/1a/1b//1a; undo() -> 0; clues = 1b/1a/1b//1a");
         S.says("There is no redo.");
         S.answers("addRun(0, 1, 1); addRun(0, 2, 1); addRun(0, 3, 1); undo() -> 2; undo() -> 1; runCount(0) -> 1",
             "undoCount() -> 1; addRun(0, 4, 1) -> 2; undo() -> 1; runCount(0) -> 1; undo() -> 0; runCount(0) -> 0",
