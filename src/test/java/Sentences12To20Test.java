@@ -252,6 +252,8 @@ public final class Sentences12To20Test {
         checkAssignments("reset(1, 5, 1); addRun(0, 1, 1); addRun(0, 2, 1);", "01011 10011 10110");
         checkAssignments("reset(1, 6, 2); addRun(0, 1, 1); addRun(0, 3, 2); addRun(0, 1, 1);",
             "012221 102221 122201 122210");
+        checkAssignments("reset(1, 6, 2); addRun(0, 1, 1); addRun(0, 3, 2); addRun(0, 1, 1); eliminate(0, 2, 0);"
+            + "eliminate(0, 3, 0);", "012221 102221 122201 122210");
         checkAssignments("reset(1, 5, 2); addRun(0, 1, 2); addRun(0, 2, 1); eliminate(0, 4, 0);", "00211 02011 20011");
         checkAssignments("reset(1, 5, 2); addRun(0, 2, 2); addRun(0, 1, 1); eliminate(0, 1, 0);",
             "02201 02210 22001 22010 22100");
