@@ -901,7 +901,7 @@ public final class NonogramSolver {
         }
 
         private int runWays(int run, int position) {
-            boolean canStart = run < runs && (starts[run] >> position & 1) != 0;
+            boolean canStart = run < runs && position + spans[run] <= length && (starts[run] >> position & 1) != 0;
             return canStart ? ways[(run + 1) * WAYS_IN_ROW + position + spans[run]] : 0;
         }
 

@@ -60,17 +60,23 @@ public final class LanguageTest {
     private static void privateNames() {
         Class<?>[] inside = NonogramSolver.class.getDeclaredClasses();
         RUNS.holds("at most some twelve classes", inside.length <= 11);
-        for (Method method : NonogramSolver.class.getDeclaredMethods()) {
-            boolean isPrivate = Modifier.isPrivate(method.getModifiers());
-            RUNS.holds(method + " bears no public name", !isPrivate || !METHODS.contains(method.getName() + "/"));
-        }
+        bearNoPublicNames(NonogramSolver.class);
         for (Class<?> one : inside) {
+            bearNoPublicNames(one);
             RUNS.holds(one + " is static", Modifier.isStatic(one.getModifiers()));
             int fields = 0;
             for (Field field : one.getDeclaredFields()) {
                 fields += Modifier.isStatic(field.getModifiers()) ? 0 : 1;
             }
             RUNS.holds(one + " has some twenty fields", fields <= 20);
+        }
+    }
+
+    private static void bearNoPublicNames(Class<?> one) {
+        for (Method method : one.getDeclaredMethods()) {
+            boolean isPrivate = Modifier.isPrivate(method.getModifiers());
+            boolean isPublicName = List.of(METHODS.replaceAll("/\\d", "").split(" ")).contains(method.getName());
+            RUNS.holds(method + " bears no public name", !isPrivate || !isPublicName);
         }
     }
 
